@@ -22,7 +22,6 @@ public final class PassForge {
     private int made;
     private final Tape tape;
     private final Reader reader;
-    private int errorPlace;
     private final Flow flow;
     private final BlockPasses blockPasses;
     private final FlowPasses flowPasses;
@@ -39,11 +38,10 @@ public final class PassForge {
             row[i] = new Program();
         }
         tape = new Tape();
-        reader = new Reader(tape);
-        errorPlace = -1;
+        reader = new Reader();
         flow = new Flow();
         blockPasses = new BlockPasses();
-        flowPasses = new FlowPasses(flow);
+        flowPasses = new FlowPasses();
         input = new long[MOST_INPUTS];
         latest = new Machine();
         left = new Machine();
@@ -75,8 +73,7 @@ public final class PassForge {
 
     public int compile() throws IllegalStateException {
         Program fresh = freshProgram();
-        int error = reader.read(fresh);
-        errorPlace = reader.faultPlace();
+        int error = reader.read(tape, fresh);
         tape.shorten(0);
         if (error == 0) {
             accept(fresh);
@@ -85,7 +82,7 @@ public final class PassForge {
     }
 
     public int errorAt() {
-        return errorPlace;
+        return reader.faultPlace();
     }
 
     public int programs() {
@@ -371,6 +368,8 @@ public final class PassForge {
         private final boolean[] isGone;
         private final int[] liveBehind;
         private final int[] place;
+        private final int[] jumps;
+        private final int[] jump;
         private int size;
         private int variables;
         private int labels;
@@ -389,6 +388,8 @@ public final class PassForge {
             isGone = new boolean[SPARE + 1];
             liveBehind = new int[SPARE + 1];
             place = new int[MOST_NAMES];
+            jumps = new int[MOST_NAMES];
+            jump = new int[SPARE + 1];
         }
 
         int size() {
@@ -400,35 +401,35 @@ public final class PassForge {
         }
 
         int sortAt(int i) {
-            return has(i) ? sort[i] : -1;
+            return i >= 0 && i < size && i < sort.length ? sort[i] : -1;
         }
 
         int targetAt(int i) {
-            return has(i) ? target[i] : -1;
+            return i >= 0 && i < size && i < target.length ? target[i] : -1;
         }
 
         int opAt(int i) {
-            return has(i) ? op[i] : -1;
+            return i >= 0 && i < size && i < op.length ? op[i] : -1;
         }
 
         int firstVariableAt(int i) {
-            return has(i) ? firstVariable[i] : -1;
+            return i >= 0 && i < size && i < firstVariable.length ? firstVariable[i] : -1;
         }
 
         int secondVariableAt(int i) {
-            return has(i) ? secondVariable[i] : -1;
+            return i >= 0 && i < size && i < secondVariable.length ? secondVariable[i] : -1;
         }
 
         long firstNumberAt(int i) {
-            return has(i) ? firstNumber[i] : 0;
+            return i >= 0 && i < size && i < firstNumber.length ? firstNumber[i] : 0;
         }
 
         long secondNumberAt(int i) {
-            return has(i) ? secondNumber[i] : 0;
+            return i >= 0 && i < size && i < secondNumber.length ? secondNumber[i] : 0;
         }
 
         int liveAt(int i) {
-            return has(i) ? liveBehind[i] : 0;
+            return i >= 0 && i < size && i < liveBehind.length ? liveBehind[i] : 0;
         }
 
         /** What code() tells. */
@@ -478,18 +479,14 @@ public final class PassForge {
             }
         }
 
-        /** Adds an instruction without operands. */
-        void add(int itsSort, int itsTarget) {
+        /** Adds an instruction; its operands are set behind it. */
+        void add(int itsSort, int itsTarget, int itsOp) {
             if (size < 0 || size >= MOST_INSTRUCTIONS) {
                 return;
             }
             sort[size] = itsSort;
             target[size] = itsTarget;
-            op[size] = -1;
-            firstVariable[size] = -1;
-            secondVariable[size] = -1;
-            firstNumber[size] = 0;
-            secondNumber[size] = 0;
+            op[size] = itsOp;
             size++;
         }
 
@@ -504,13 +501,6 @@ public final class PassForge {
             if (has(i)) {
                 secondVariable[i] = v;
                 secondNumber[i] = value;
-            }
-        }
-
-        void setReckon(int i, int itsOp) {
-            if (has(i)) {
-                sort[i] = RECKON;
-                op[i] = itsOp;
             }
         }
 
@@ -529,12 +519,6 @@ public final class PassForge {
             if (has(i)) {
                 sort[i] = GOTO;
                 setFirst(i, -1, 0);
-            }
-        }
-
-        void setTarget(int i, int itsTarget) {
-            if (has(i)) {
-                target[i] = itsTarget;
             }
         }
 
@@ -618,13 +602,16 @@ public final class PassForge {
             return setOf(firstVariableAt(i)) | setOf(secondVariableAt(i));
         }
 
-        boolean assigns(int i) {
-            int itsSort = sortAt(i);
-            return itsSort == SET || itsSort == RECKON || itsSort == IN;
+        /** The variable that it assigns, or -1. */
+        int assigned(int i) {
+            if (i < 0 || i >= size || i >= sort.length || i >= target.length) {
+                return -1;
+            }
+            return sort[i] == SET || sort[i] == RECKON || sort[i] == IN ? target[i] : -1;
         }
 
         int assignedSet(int i) {
-            return assigns(i) ? setOf(targetAt(i)) : 0;
+            return setOf(assigned(i));
         }
 
         boolean isLabel(int i) {
@@ -640,21 +627,31 @@ public final class PassForge {
             return i == 0 || isLabel(i) || isJump(i - 1) || sortAt(i - 1) == HALT;
         }
 
-        /** Has to be called when instructions were added, removed or moved, ahead of the questions below. */
-        void findLabels() {
-            for (int label = 0; label < place.length; label++) {
+        /** Has to be called when instructions were changed, ahead of the questions below. */
+        void link() {
+            for (int label = 0; label < MOST_NAMES; label++) {
                 place[label] = size;
+                jumps[label] = 0;
             }
             for (int i = 0; i < size; i++) {
                 int label = targetAt(i);
-                if (isLabel(i) && label >= 0 && label < place.length) {
+                if (isLabel(i) && label >= 0 && label < MOST_NAMES) {
                     place[label] = i;
+                }
+            }
+            for (int i = 0; i < size && i < jump.length; i++) {
+                int label = isJump(i) ? targetAt(i) : -1;
+                boolean isFound = label >= 0 && label < MOST_NAMES;
+                jump[i] = isFound ? place[label] : size;
+                if (isFound) {
+                    jumps[label]++;
                 }
             }
         }
 
-        int placeOf(int label) {
-            return label >= 0 && label < place.length ? place[label] : size;
+        /** The place that follows directly by a jump, or size() if none does. */
+        int jumpOf(int i) {
+            return i >= 0 && i < size && i < jump.length ? jump[i] : size;
         }
 
         /** The place that follows directly by going on, or size() if none does. */
@@ -663,29 +660,18 @@ public final class PassForge {
             return itsSort == GOTO || itsSort == HALT ? size : i + 1;
         }
 
-        /** The place that follows directly by a jump, or size() if none does. */
-        int jumpOf(int i) {
-            return isJump(i) ? placeOf(targetAt(i)) : size;
+        /** How many gotos and ifs lead to a label. */
+        int jumpsTo(int label) {
+            return label >= 0 && label < jumps.length ? jumps[label] : 0;
         }
 
         /** The first place from i on that is no label. */
         int pastLabels(int i) {
             int at = i;
-            while (at < size && isLabel(at)) {
+            while (at < size && sortAt(at) == LABEL) {
                 at++;
             }
             return at;
-        }
-
-        /** How many gotos and ifs lead to a label. */
-        int jumpsTo(int label) {
-            int jumps = 0;
-            for (int i = 0; i < size; i++) {
-                if (isJump(i) && targetAt(i) == label) {
-                    jumps++;
-                }
-            }
-            return jumps;
         }
 
         /** The last place of the loop that begins at i, or -1 if none does. */
@@ -706,7 +692,7 @@ public final class PassForge {
         private boolean isEnteredBehind(int i, int end) {
             for (int j = 0; j < size; j++) {
                 boolean isOutside = j < i || j > end;
-                if (isOutside && isJump(j) && jumpOf(j) > i && jumpOf(j) <= end) {
+                if (isOutside && jumpOf(j) > i && jumpOf(j) <= end) {
                     return true;
                 }
             }
@@ -740,36 +726,12 @@ public final class PassForge {
         }
     }
 
-    /** The bytes of a text, and the token of it that is being looked at. */
+    /** The bytes that feed() and trim() leave. */
     private static final class Tape {
-        private static final int MOST_BYTES = 1600;
-        private static final int LONGEST = 6;
-
-        /** Kinds of tokens; a symbol's kind is its byte, which is more than these. */
-        static final int END = 0;
-        static final int BAD = 1;
-        static final int NAME = 2;
-        static final int NUMBER = 3;
-        static final int GOTO = 4;
-        static final int IF = 5;
-        static final int IN = 6;
-        static final int OUT = 7;
-        static final int HALT = 8;
-
-        /** The keywords as word() gives them. */
-        private static final long WORD_GOTO = 'g' << 24 | 'o' << 16 | 't' << 8 | 'o';
-        private static final long WORD_IF = 'i' << 8 | 'f';
-        private static final long WORD_IN = 'i' << 8 | 'n';
-        private static final long WORD_OUT = 'o' << 16 | 'u' << 8 | 't';
-        private static final long WORD_HALT = 'h' << 24 | 'a' << 16 | 'l' << 8 | 't';
+        static final int MOST_BYTES = 1600;
 
         private final int[] bytes;
         private int size;
-        private int at;
-        private int token;
-        private int start;
-        private long word;
-        private long amount;
 
         Tape() {
             bytes = new int[MOST_BYTES];
@@ -781,6 +743,11 @@ public final class PassForge {
 
         int room() {
             return MOST_BYTES - size;
+        }
+
+        /** The byte at a position, or -1 behind the end. */
+        int byteAt(int i) {
+            return i >= 0 && i < size && i < bytes.length ? bytes[i] : -1;
         }
 
         void shorten(int n) {
@@ -798,69 +765,113 @@ public final class PassForge {
                 }
             }
         }
+    }
 
-        int token() {
-            return token;
+    /** The tokens of a text, and which of them is being looked at. The last one is the end of the text. */
+    private static final class Tokens {
+        private static final int LONGEST = 6;
+
+        /** Kinds of tokens; a symbol's kind is its byte, which is more than these. */
+        static final int END = 0;
+        static final int BAD = 1;
+        static final int NUMBER = 2;
+        static final int NAME = 3;
+        static final int GOTO = 4;
+        static final int IF = 5;
+        static final int IN = 6;
+        static final int OUT = 7;
+        static final int HALT = 8;
+
+        /** The keywords as words are held: their bytes as one number. */
+        private static final long WORD_GOTO = 'g' << 24 | 'o' << 16 | 't' << 8 | 'o';
+        private static final long WORD_IF = 'i' << 8 | 'f';
+        private static final long WORD_IN = 'i' << 8 | 'n';
+        private static final long WORD_OUT = 'o' << 16 | 'u' << 8 | 't';
+        private static final long WORD_HALT = 'h' << 24 | 'a' << 16 | 'l' << 8 | 't';
+
+        private final int[] kinds;
+        private final int[] starts;
+        private final long[] contents;
+        private int size;
+        private int current;
+
+        Tokens() {
+            kinds = new int[Tape.MOST_BYTES + 1];
+            starts = new int[Tape.MOST_BYTES + 1];
+            contents = new long[Tape.MOST_BYTES + 1];
         }
 
-        /** The position of the token. */
+        int kind() {
+            return current >= 0 && current < size && current < kinds.length ? kinds[current] : END;
+        }
+
+        /** The position of the token on the tape. */
         int start() {
-            return start;
+            return current >= 0 && current < size && current < starts.length ? starts[current] : 0;
         }
 
-        /** The bytes of the token, if it is a word, as one number: words are the same if their numbers are. */
-        long word() {
-            return word;
-        }
-
-        /** The number that the token is, if it is one. */
-        long amount() {
-            return amount;
-        }
-
-        void toFirst() {
-            at = 0;
-            toNext();
+        /** A number's amount, or a word's bytes as one number: words are the same if these numbers are. */
+        long content() {
+            return current >= 0 && current < size && current < contents.length ? contents[current] : 0;
         }
 
         void toNext() {
-            while (at < size && (byteAt(at) == ' ' || byteAt(at) == 10)) {
-                at++;
-            }
-            start = at;
-            int b = byteAt(at);
-            if (b < 0) {
-                token = END;
-            } else if (isLetter(b)) {
-                takeWord();
-            } else if (isDigit(b)) {
-                takeNumber();
-            } else {
-                token = isSymbol(b) ? b : BAD;
-                at++;
+            if (current < size - 1) {
+                current++;
             }
         }
 
-        private void takeWord() {
-            word = 0;
-            while (at < size && (isLetter(byteAt(at)) || isDigit(byteAt(at)))) {
-                word = word << 8 | byteAt(at);
-                at++;
+        /** Takes the tokens of a tape, and looks at the first one. */
+        void cut(Tape tape) {
+            size = 0;
+            current = 0;
+            int at = 0;
+            while (at < tape.size()) {
+                int b = tape.byteAt(at);
+                int length = 1;
+                if (isLetter(b)) {
+                    length = cutWord(tape, at);
+                } else if (isDigit(b)) {
+                    length = cutNumber(tape, at);
+                } else if (b != ' ' && b != '\n') {
+                    add(isSymbol(b) ? b : BAD, at, 0);
+                }
+                at += length;
             }
-            token = at - start > LONGEST ? BAD : kindOf(word);
+            add(END, tape.size(), 0);
         }
 
-        private void takeNumber() {
-            amount = 0;
-            while (at < size && isDigit(byteAt(at))) {
-                amount = amount * 10 + (byteAt(at) - '0');
-                at++;
+        private void add(int kind, int start, long content) {
+            if (size >= 0 && size < kinds.length && size < starts.length && size < contents.length) {
+                kinds[size] = kind;
+                starts[size] = start;
+                contents[size] = content;
+                size++;
             }
-            token = at - start > LONGEST ? BAD : NUMBER;
         }
 
-        private int byteAt(int i) {
-            return i >= 0 && i < size && i < bytes.length ? bytes[i] : -1;
+        /** Adds the word that begins at start; answers its length. */
+        private int cutWord(Tape tape, int start) {
+            long word = 0;
+            int at = start;
+            while (at < tape.size() && (isLetter(tape.byteAt(at)) || isDigit(tape.byteAt(at)))) {
+                word = word << 8 | tape.byteAt(at);
+                at++;
+            }
+            add(at - start > LONGEST ? BAD : kindOfWord(word), start, word);
+            return at - start;
+        }
+
+        /** Adds the number that begins at start; answers its length. */
+        private int cutNumber(Tape tape, int start) {
+            long amount = 0;
+            int at = start;
+            while (at < tape.size() && isDigit(tape.byteAt(at))) {
+                amount = amount * 10 + (tape.byteAt(at) - '0');
+                at++;
+            }
+            add(at - start > LONGEST ? BAD : NUMBER, start, amount);
+            return at - start;
         }
 
         private static boolean isLetter(int b) {
@@ -875,25 +886,25 @@ public final class PassForge {
             return b == ';' || b == ':' || opOf(b) >= 0;
         }
 
-        private static int kindOf(long itsWord) {
-            if (itsWord == WORD_GOTO) {
+        private static int kindOfWord(long word) {
+            if (word == WORD_GOTO) {
                 return GOTO;
             }
-            if (itsWord == WORD_IF) {
+            if (word == WORD_IF) {
                 return IF;
             }
-            if (itsWord == WORD_IN) {
+            if (word == WORD_IN) {
                 return IN;
             }
-            if (itsWord == WORD_OUT) {
+            if (word == WORD_OUT) {
                 return OUT;
             }
-            return itsWord == WORD_HALT ? HALT : NAME;
+            return word == WORD_HALT ? HALT : NAME;
         }
 
-        /** The number of the op that a symbol is, or -1. */
-        static int opOf(int symbol) {
-            switch (symbol) {
+        /** The number of the op that a token of this kind is, or -1. */
+        static int opOf(int kind) {
+            switch (kind) {
                 case '+':
                     return 0;
                 case '-':
@@ -958,7 +969,7 @@ public final class PassForge {
             return size - 1;
         }
 
-        /** Notes that the label stands ahead of a colon; false if it did already. */
+        /** Notes that the label stands ahead of a colon; false if it did already, or is none. */
         boolean setOnce(int i) {
             if (i < 0 || i >= isSet.length || isSet[i]) {
                 return false;
@@ -984,32 +995,46 @@ public final class PassForge {
         private static final int LIMIT = 2;
         private static final int NO_LABEL = 3;
 
-        private final Tape tape;
+        private final Tokens tokens;
         private final Names variables;
         private final Names labels;
         private int fault;
         private int faultPlace;
 
-        Reader(Tape itsTape) {
-            tape = itsTape;
+        /** The instruction that is being read. */
+        private int target;
+        private int op;
+        private int firstVariable;
+        private long firstNumber;
+        private int secondVariable;
+        private long secondNumber;
+
+        /** The value that was read last. */
+        private int variable;
+        private long amount;
+
+        Reader() {
+            tokens = new Tokens();
             variables = new Names();
             labels = new Names();
+            faultPlace = -1;
         }
 
+        /** The position of the latest fault, or -1. */
         int faultPlace() {
             return faultPlace;
         }
 
         /** Reads the whole tape; answers 0 or the fault. */
-        int read(Program p) {
+        int read(Tape tape, Program p) {
             fault = 0;
             faultPlace = -1;
             variables.clear();
             labels.clear();
             p.clear();
-            tape.toFirst();
+            tokens.cut(tape);
             boolean isFine = readLine(p);
-            for (int line = 1; isFine && line <= MOST_INSTRUCTIONS && tape.token() != Tape.END; line++) {
+            for (int line = 1; isFine && line <= MOST_INSTRUCTIONS && tokens.kind() != Tokens.END; line++) {
                 isFine = readLine(p);
             }
             if (isFine && labels.firstUnset() >= 0) {
@@ -1026,127 +1051,138 @@ public final class PassForge {
         }
 
         private boolean readLine(Program p) {
-            int token = tape.token();
-            if (token < Tape.NAME || token == Tape.NUMBER || token > Tape.HALT) {
-                return fail(FORM, tape.start());
+            int kind = tokens.kind();
+            if (kind < Tokens.NAME || kind > Tokens.HALT) {
+                return fail(FORM, tokens.start());
             }
             if (p.size() >= MOST_INSTRUCTIONS) {
-                return fail(LIMIT, tape.start());
+                return fail(LIMIT, tokens.start());
             }
-            if (token == Tape.NAME) {
+            forgetInstruction();
+            if (kind == Tokens.NAME) {
                 return readNamed(p);
             }
-            tape.toNext();
-            switch (token) {
-                case Tape.GOTO:
-                    p.add(Program.GOTO, -1);
-                    return readLabel(p) && take(';');
-                case Tape.IF:
-                    p.add(Program.IF, -1);
-                    return readValue(p, false) && take(Tape.GOTO) && readLabel(p) && take(';');
-                case Tape.IN:
-                    p.add(Program.IN, -1);
-                    return readVariable(p) && take(';');
-                case Tape.OUT:
-                    p.add(Program.OUT, -1);
-                    return readValue(p, false) && take(';');
+            tokens.toNext();
+            switch (kind) {
+                case Tokens.GOTO:
+                    return readName(labels) && add(p, Program.GOTO) && take(';');
+                case Tokens.IF:
+                    return readFirst() && take(Tokens.GOTO) && readName(labels) && add(p, Program.IF) && take(';');
+                case Tokens.IN:
+                    return readName(variables) && add(p, Program.IN) && take(';');
+                case Tokens.OUT:
+                    return readFirst() && add(p, Program.OUT) && take(';');
                 default:
-                    p.add(Program.HALT, -1);
-                    return take(';');
+                    return add(p, Program.HALT) && take(';');
             }
+        }
+
+        private void forgetInstruction() {
+            target = -1;
+            op = -1;
+            firstVariable = -1;
+            firstNumber = 0;
+            secondVariable = -1;
+            secondNumber = 0;
+        }
+
+        private boolean add(Program p, int sort) {
+            p.add(sort, target, op);
+            p.setFirst(p.size() - 1, firstVariable, firstNumber);
+            p.setSecond(p.size() - 1, secondVariable, secondNumber);
+            return true;
         }
 
         /** A label or an assignment: what the name is, is told by the token behind it. */
         private boolean readNamed(Program p) {
-            long word = tape.word();
-            int at = tape.start();
-            tape.toNext();
-            if (tape.token() == ':') {
-                int label = labels.find(word, at);
-                if (!labels.setOnce(label)) {
+            long word = tokens.content();
+            int at = tokens.start();
+            tokens.toNext();
+            if (tokens.kind() == ':') {
+                target = labels.find(word, at);
+                if (!labels.setOnce(target)) {
                     return fail(LIMIT, at);
                 }
-                p.add(Program.LABEL, label);
-                return take(':');
+                return add(p, Program.LABEL) && take(':');
             }
-            if (tape.token() != '=') {
-                return fail(FORM, tape.start());
+            if (tokens.kind() != '=') {
+                return fail(FORM, tokens.start());
             }
-            int variable = variables.find(word, at);
-            if (variable < 0) {
+            target = variables.find(word, at);
+            if (target < 0) {
                 return fail(LIMIT, at);
             }
-            p.add(Program.SET, variable);
-            return take('=') && readValue(p, false) && readSecond(p) && take(';');
-        }
-
-        /** The op and the second value, if they are there. */
-        private boolean readSecond(Program p) {
-            int op = Tape.opOf(tape.token());
+            if (!take('=') || !readFirst()) {
+                return false;
+            }
+            op = Tokens.opOf(tokens.kind());
             if (op < 0) {
-                return true;
+                return add(p, Program.SET) && take(';');
             }
-            p.setReckon(p.size() - 1, op);
-            tape.toNext();
-            return readValue(p, true);
+            tokens.toNext();
+            return readSecond() && add(p, Program.RECKON) && take(';');
         }
 
-        private boolean take(int token) {
-            if (tape.token() != token) {
-                return fail(FORM, tape.start());
+        private boolean take(int kind) {
+            if (tokens.kind() != kind) {
+                return fail(FORM, tokens.start());
             }
-            tape.toNext();
+            tokens.toNext();
             return true;
+        }
+
+        private boolean readName(Names names) {
+            target = takeName(names);
+            return target >= 0;
         }
 
         /** The number of the name that the token is, or -1 if there is a fault, which is noted. */
         private int takeName(Names names) {
-            if (tape.token() != Tape.NAME) {
-                fail(FORM, tape.start());
+            if (tokens.kind() != Tokens.NAME) {
+                fail(FORM, tokens.start());
                 return -1;
             }
-            int number = names.find(tape.word(), tape.start());
+            int number = names.find(tokens.content(), tokens.start());
             if (number < 0) {
-                fail(LIMIT, tape.start());
+                fail(LIMIT, tokens.start());
                 return -1;
             }
-            tape.toNext();
+            tokens.toNext();
             return number;
         }
 
-        private boolean readLabel(Program p) {
-            int label = takeName(labels);
-            p.setTarget(p.size() - 1, label);
-            return label >= 0;
+        private boolean readFirst() {
+            boolean isFine = readValue();
+            firstVariable = variable;
+            firstNumber = amount;
+            return isFine;
         }
 
-        private boolean readVariable(Program p) {
-            int variable = takeName(variables);
-            p.setTarget(p.size() - 1, variable);
-            return variable >= 0;
+        private boolean readSecond() {
+            boolean isFine = readValue();
+            secondVariable = variable;
+            secondNumber = amount;
+            return isFine;
         }
 
-        private boolean readValue(Program p, boolean isSecond) {
-            if (tape.token() == Tape.NAME) {
-                int variable = takeName(variables);
-                setValue(p, isSecond, variable, 0);
+        private boolean readValue() {
+            variable = -1;
+            amount = 0;
+            if (tokens.kind() == Tokens.NAME) {
+                variable = takeName(variables);
                 return variable >= 0;
             }
-            boolean isNegative = tape.token() == '-';
-            if (isNegative) {
-                tape.toNext();
-            }
-            long amount = tape.amount();
-            setValue(p, isSecond, -1, isNegative ? -amount : amount);
-            return take(Tape.NUMBER);
+            boolean isNegative = passMinus();
+            amount = isNegative ? -tokens.content() : tokens.content();
+            return take(Tokens.NUMBER);
         }
 
-        private void setValue(Program p, boolean isSecond, int variable, long value) {
-            if (isSecond) {
-                p.setSecond(p.size() - 1, variable, value);
-            } else {
-                p.setFirst(p.size() - 1, variable, value);
+        private boolean passMinus() {
+            if (tokens.kind() != '-') {
+                return false;
             }
+            tokens.toNext();
+            return true;
         }
     }
 
@@ -1176,7 +1212,7 @@ public final class PassForge {
 
         /** Looks at the program as it is now; the questions above are about the one that was looked at last. */
         void look(Program p) {
-            p.findLabels();
+            p.link();
             for (int i = 0; i < MOST_INSTRUCTIONS; i++) {
                 isReached[i] = false;
                 ahead[i] = 0;
@@ -1322,8 +1358,8 @@ public final class PassForge {
         }
 
         private void learnNumber(Program p, int i) {
-            int x = p.targetAt(i);
-            if (p.assigns(i) && x >= 0 && x < MOST_NAMES) {
+            int x = p.assigned(i);
+            if (x >= 0 && x < MOST_NAMES) {
                 isKnown[x] = p.sortAt(i) == Program.SET && p.firstVariableAt(i) < 0;
                 known[x] = p.firstNumberAt(i);
             }
@@ -1374,8 +1410,8 @@ public final class PassForge {
         }
 
         private void learnCopy(Program p, int i) {
-            int x = p.targetAt(i);
-            if (!p.assigns(i) || x < 0 || x >= MOST_NAMES) {
+            int x = p.assigned(i);
+            if (x < 0 || x >= MOST_NAMES) {
                 return;
             }
             for (int v = 0; v < MOST_NAMES; v++) {
@@ -1447,8 +1483,8 @@ public final class PassForge {
     private static final class FlowPasses {
         private final Flow flow;
 
-        FlowPasses(Flow itsFlow) {
-            flow = itsFlow;
+        FlowPasses() {
+            flow = new Flow();
         }
 
         int drop(Program p) {
