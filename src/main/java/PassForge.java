@@ -1172,17 +1172,12 @@ public final class PassForge {
                 variable = takeName(variables);
                 return variable >= 0;
             }
-            boolean isNegative = passMinus();
+            boolean isNegative = tokens.kind() == '-';
+            if (isNegative) {
+                tokens.toNext();
+            }
             amount = isNegative ? -tokens.content() : tokens.content();
             return take(Tokens.NUMBER);
-        }
-
-        private boolean passMinus() {
-            if (tokens.kind() != '-') {
-                return false;
-            }
-            tokens.toNext();
-            return true;
         }
     }
 
