@@ -1067,11 +1067,12 @@ public final class PassForge {
                 case Tokens.GOTO:
                     return readName(labels) && add(p, Program.GOTO) && take(';');
                 case Tokens.IF:
-                    return readFirst() && take(Tokens.GOTO) && readName(labels) && add(p, Program.IF) && take(';');
+                    return readValue() && keepFirst() && take(Tokens.GOTO)
+                            && readName(labels) && add(p, Program.IF) && take(';');
                 case Tokens.IN:
                     return readName(variables) && add(p, Program.IN) && take(';');
                 case Tokens.OUT:
-                    return readFirst() && add(p, Program.OUT) && take(';');
+                    return readValue() && keepFirst() && add(p, Program.OUT) && take(';');
                 default:
                     return add(p, Program.HALT) && take(';');
             }
@@ -1112,7 +1113,7 @@ public final class PassForge {
             if (target < 0) {
                 return fail(LIMIT, at);
             }
-            if (!take('=') || !readFirst()) {
+            if (!take('=') || !readValue() || !keepFirst()) {
                 return false;
             }
             op = Tokens.opOf(tokens.kind());
@@ -1120,7 +1121,7 @@ public final class PassForge {
                 return add(p, Program.SET) && take(';');
             }
             tokens.toNext();
-            return readSecond() && add(p, Program.RECKON) && take(';');
+            return readValue() && keepSecond() && add(p, Program.RECKON) && take(';');
         }
 
         private boolean take(int kind) {
@@ -1151,18 +1152,16 @@ public final class PassForge {
             return number;
         }
 
-        private boolean readFirst() {
-            boolean isFine = readValue();
+        private boolean keepFirst() {
             firstVariable = variable;
             firstNumber = amount;
-            return isFine;
+            return true;
         }
 
-        private boolean readSecond() {
-            boolean isFine = readValue();
+        private boolean keepSecond() {
             secondVariable = variable;
             secondNumber = amount;
-            return isFine;
+            return true;
         }
 
         private boolean readValue() {
