@@ -1,4 +1,8 @@
+import java.util.ArrayList;
+import java.util.List;
 import java.util.concurrent.Callable;
+import java.util.regex.Matcher;
+import java.util.regex.Pattern;
 
 /** What the tests share: comparing answers, and putting a text on the tape. */
 final class Check {
@@ -74,34 +78,47 @@ final class Check {
         return wrong;
     }
 
-    /** A program as a text again, told by code() and number(); variables are a, b .. and labels la, lb .. by their numbers. */
-    static String show(PassForge x, int program) {
+    /** A program as a text again, told by code() and number(), with the names that an older text has. */
+    static String show(PassForge x, int program, String names) {
+        List<String> variables = new ArrayList<>();
+        List<String> labels = new ArrayList<>();
+        findNames(names, variables, labels);
         StringBuilder text = new StringBuilder();
         for (int i = 0; i < x.count(program, 0); i++) {
-            text.append(text.length() == 0 ? "" : " ").append(showOne(x, program, i));
+            text.append(text.length() == 0 ? "" : " ").append(showOne(x, program, i, variables, labels));
         }
         return text.toString();
     }
 
-    private static String showOne(PassForge x, int program, int i) {
+    private static void findNames(String text, List<String> variables, List<String> labels) {
+        Matcher words = Pattern.compile("(goto +)?\\b([a-z][a-z0-9]*)\\b( *:)?").matcher(text);
+        while (words.find()) {
+            String name = words.group(2);
+            List<String> names = words.group(1) != null || words.group(3) != null ? labels : variables;
+            if (!name.matches("goto|if|in|out|halt") && !names.contains(name)) {
+                names.add(name);
+            }
+        }
+    }
+
+    private static String showOne(PassForge x, int program, int i, List<String> variables, List<String> labels) {
         int name = x.code(program, i, 1);
-        String v = showValue(x.code(program, i, 3), x.number(program, i, false));
-        String w = showValue(x.code(program, i, 4), x.number(program, i, true));
-        char variable = (char) ('a' + name);
+        String v = showValue(x.code(program, i, 3), x.number(program, i, false), variables);
+        String w = showValue(x.code(program, i, 4), x.number(program, i, true), variables);
         switch (x.code(program, i, 0)) {
-            case 0: return "l" + variable + ":";
-            case 1: return variable + " = " + v + ";";
-            case 2: return variable + " = " + v + " " + "+-*/%&|^<=".charAt(x.code(program, i, 2)) + " " + w + ";";
-            case 3: return "goto l" + variable + ";";
-            case 4: return "if " + v + " goto l" + variable + ";";
-            case 5: return "in " + variable + ";";
+            case 0: return labels.get(name) + ":";
+            case 1: return variables.get(name) + " = " + v + ";";
+            case 2: return variables.get(name) + " = " + v + " " + "+-*/%&|^<=".charAt(x.code(program, i, 2)) + " " + w + ";";
+            case 3: return "goto " + labels.get(name) + ";";
+            case 4: return "if " + v + " goto " + labels.get(name) + ";";
+            case 5: return "in " + variables.get(name) + ";";
             case 6: return "out " + v + ";";
             case 7: return "halt;";
             default: return "?";
         }
     }
 
-    private static String showValue(int variable, long number) {
-        return variable < 0 ? Long.toString(number) : Character.toString((char) ('a' + variable));
+    private static String showValue(int variable, long number, List<String> variables) {
+        return variable < 0 ? Long.toString(number) : variables.get(variable);
     }
 }
