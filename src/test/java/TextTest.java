@@ -135,6 +135,8 @@ public final class TextTest {
         told("goto;", 1, 4);
         told("goto 1;", 1, 5);
         told("goto if;", 1, 5);
+        told("goto; $", 1, 4);
+        told("in; $", 1, 2);
         told("goto a", 1, 6);
         told("if x a;", 1, 5);
         told("if goto a;", 1, 3);
