@@ -84,10 +84,34 @@ final class Check {
         List<String> labels = new ArrayList<>();
         findNames(names, variables, labels);
         StringBuilder text = new StringBuilder();
-        for (int i = 0; i < x.count(program, 0); i++) {
-            text.append(text.length() == 0 ? "" : " ").append(showOne(x, program, i, variables, labels));
+        int size = x.count(program, 0);
+        for (int i = 0; i < size; i++) {
+            int[] code = new int[5];
+            for (int what = 0; what < code.length; what++) {
+                code[what] = x.code(program, i, what);
+            }
+            long[] numbers = {x.number(program, i, false), x.number(program, i, true)};
+            tellsNothingElse("instruction " + i, code, numbers);
+            text.append(i == 0 ? "" : " ").append(showOne(code, numbers, variables, labels));
         }
         return text.toString();
+    }
+
+    /** What an instruction has not, is told as -1 by code() and as 0 by number(). */
+    private static void tellsNothingElse(String name, int[] code, long[] numbers) {
+        int sort = code[0];
+        boolean[] has = {true, sort < 6, sort == 2, sort == 1 || sort == 2 || sort == 4 || sort == 6, sort == 2};
+        for (int what = 1; what < code.length; what++) {
+            boolean isNone = code[what] == -1;
+            boolean isAllowed = what < 3 ? isNone != has[what] : isNone || has[what];
+            same("what " + what + " of " + name + " of sort " + sort + ", " + code[what] + ", can be", isAllowed, true);
+        }
+        if (!has[3] || code[3] >= 0) {
+            is("number v of " + name, numbers[0], 0);
+        }
+        if (!has[4] || code[4] >= 0) {
+            is("number w of " + name, numbers[1], 0);
+        }
     }
 
     private static void findNames(String text, List<String> variables, List<String> labels) {
@@ -101,14 +125,14 @@ final class Check {
         }
     }
 
-    private static String showOne(PassForge x, int program, int i, List<String> variables, List<String> labels) {
-        int name = x.code(program, i, 1);
-        String v = showValue(x.code(program, i, 3), x.number(program, i, false), variables);
-        String w = showValue(x.code(program, i, 4), x.number(program, i, true), variables);
-        switch (x.code(program, i, 0)) {
+    private static String showOne(int[] code, long[] numbers, List<String> variables, List<String> labels) {
+        int name = code[1];
+        String v = showValue(code[3], numbers[0], variables);
+        String w = showValue(code[4], numbers[1], variables);
+        switch (code[0]) {
             case 0: return labels.get(name) + ":";
             case 1: return variables.get(name) + " = " + v + ";";
-            case 2: return variables.get(name) + " = " + v + " " + "+-*/%&|^<=".charAt(x.code(program, i, 2)) + " " + w + ";";
+            case 2: return variables.get(name) + " = " + v + " " + "+-*/%&|^<=".charAt(code[2]) + " " + w + ";";
             case 3: return "goto " + labels.get(name) + ";";
             case 4: return "if " + v + " goto " + labels.get(name) + ";";
             case 5: return "in " + variables.get(name) + ";";
