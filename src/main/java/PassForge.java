@@ -827,18 +827,24 @@ public final class PassForge {
             current = 0;
             int at = 0;
             while (at < tape.size()) {
-                int b = tape.byteAt(at);
-                int length = 1;
-                if (isLetter(b)) {
-                    length = cutWord(tape, at);
-                } else if (isDigit(b)) {
-                    length = cutNumber(tape, at);
-                } else if (b != ' ' && b != '\n') {
-                    add(isSymbol(b) ? b : BAD, at, 0);
-                }
-                at += length;
+                at += Math.max(1, cutOne(tape, at));
             }
             add(END, tape.size(), 0);
+        }
+
+        /** Adds the token that begins at a position, if one does; answers how many bytes were read. */
+        private int cutOne(Tape tape, int at) {
+            int b = tape.byteAt(at);
+            if (isLetter(b)) {
+                return cutWord(tape, at);
+            }
+            if (isDigit(b)) {
+                return cutNumber(tape, at);
+            }
+            if (b != ' ' && b != '\n') {
+                add(isSymbol(b) ? b : BAD, at, 0);
+            }
+            return 1;
         }
 
         private void add(int kind, int start, long content) {

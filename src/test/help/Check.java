@@ -80,19 +80,24 @@ final class Check {
 
     /** A program as a text again, told by code() and number(), with the names that an older text has. */
     static String show(PassForge x, int program, String names) {
+        return show(x, program, names, 0, 80);
+    }
+
+    /** The instructions from one place to another: an object is asked 512 times at most, and each one takes seven calls. */
+    static String show(PassForge x, int program, String names, int from, int to) {
         List<String> variables = new ArrayList<>();
         List<String> labels = new ArrayList<>();
         findNames(names, variables, labels);
         StringBuilder text = new StringBuilder();
-        int size = x.count(program, 0);
-        for (int i = 0; i < size; i++) {
+        int end = Math.min(to, x.count(program, 0));
+        for (int i = from; i < end; i++) {
             int[] code = new int[5];
             for (int what = 0; what < code.length; what++) {
                 code[what] = x.code(program, i, what);
             }
             long[] numbers = {x.number(program, i, false), x.number(program, i, true)};
             tellsNothingElse("instruction " + i, code, numbers);
-            text.append(i == 0 ? "" : " ").append(showOne(code, numbers, variables, labels));
+            text.append(i == from ? "" : " ").append(showOne(code, numbers, variables, labels));
         }
         return text.toString();
     }
@@ -103,7 +108,7 @@ final class Check {
         boolean[] has = {true, sort < 6, sort == 2, sort == 1 || sort == 2 || sort == 4 || sort == 6, sort == 2};
         for (int what = 1; what < code.length; what++) {
             boolean isNone = code[what] == -1;
-            boolean isAllowed = what < 3 ? isNone != has[what] : isNone || has[what];
+            boolean isAllowed = code[what] >= -1 && (what < 3 ? isNone != has[what] : isNone || has[what]);
             same("what " + what + " of " + name + " of sort " + sort + ", " + code[what] + ", can be", isAllowed, true);
         }
         if (!has[3] || code[3] >= 0) {

@@ -12,6 +12,8 @@ public final class LimitTest {
         betterUntilNothingChanges();
         thirtyNumbers();
         mostSteps();
+        jumpsIfNotZero();
+        reckonsIn64Bits();
         stopsWithItsLastStep();
         readsBehindTheEnd();
         putsOutSixty();
@@ -201,6 +203,55 @@ public final class LimitTest {
         Check.is("has not stopped", y.ran(0), 0);
         Check.is("but put out both", y.ran(1), 2);
         Check.is("each label is no step", Check.with("a: b: out 1; c: d: out 2; e: f:").run(0, 5000), 2);
+    }
+
+    /** "if v goto: likewise, if v is not 0", whatever its sign, and in all of its 64 bits */
+    private static void jumpsIfNotZero() {
+        PassForge x = Check.with("in a; if a goto z; out 1; z: out 2;");
+        long[] numbers = {0, 1, -1, 2, 256, 65536, 1L << 31, 1L << 32, 1L << 62, Long.MIN_VALUE, Long.MAX_VALUE};
+        for (long number : numbers) {
+            x.empty();
+            x.put(number);
+            Check.is("steps with " + number, x.run(0, 9), number == 0 ? 4 : 3);
+            Check.is("put out with " + number, x.output(0), number == 0 ? 1 : 2);
+        }
+    }
+
+    /** "All is reckoned in 64-bit integers, which wrap around; / and % by 0 yield 0, / is cut towards 0, % has the sign of the left operand." */
+    private static void reckonsIn64Bits() {
+        long least = Long.MIN_VALUE;
+        long most = Long.MAX_VALUE;
+        long[][] rows = {
+            // v, w, and v + w, v - w, v * w, v / w, v % w, v & w, v | w, v ^ w, v < w, v = w
+            {most, 1, least, most - 1, most, most, 0, 1, most, most - 1, 0, 0},
+            {least, -1, most, least + 1, least, least, 0, least, -1, most, 1, 0},
+            {least, 1, least + 1, most, least, least, 0, 0, least + 1, least + 1, 1, 0},
+            {least, least, 0, 0, 0, 1, 0, least, least, 0, 0, 1},
+            {least, most, -1, 1, least, -1, -1, 0, -1, -1, 1, 0},
+            {most, most, -2, 0, 1, 1, 0, most, most, 0, 0, 1},
+            {most, least, -1, -1, least, 0, most, 0, -1, -1, 0, 0},
+            {7, 0, 7, 7, 0, 0, 0, 0, 7, 7, 0, 0},
+            {-7, 0, -7, -7, 0, 0, 0, 0, -7, -7, 1, 0},
+            {0, 0, 0, 0, 0, 0, 0, 0, 0, 0, 0, 1},
+            {least, 0, least, least, 0, 0, 0, 0, least, least, 1, 0},
+            {0, 7, 7, -7, 0, 0, 0, 0, 7, 7, 1, 0},
+            {7, 2, 9, 5, 14, 3, 1, 2, 7, 5, 0, 0},
+            {-7, 2, -5, -9, -14, -3, -1, 0, -5, -5, 1, 0},
+            {7, -2, 5, 9, -14, -3, 1, 6, -1, -7, 0, 0},
+            {-7, -2, -9, -5, 14, 3, -1, -8, -1, 7, 1, 0},
+            {1L << 32, 1, (1L << 32) + 1, (1L << 32) - 1, 1L << 32, 1L << 32, 0, 0, (1L << 32) + 1, (1L << 32) + 1, 0, 0},
+            {(1L << 32) + 3, 3, (1L << 32) + 6, 1L << 32, 3 * ((1L << 32) + 3), 1431655766, 1, 3, (1L << 32) + 3, 1L << 32, 0, 0},
+        };
+        PassForge x = Check.with("in v; in w; a = v + w; b = v - w; c = v * w; d = v / w; e = v % w; f = v & w; g = v | w; h = v ^ w; i = v < w; j = v = w;");
+        for (long[] row : rows) {
+            x.empty();
+            x.put(row[0]);
+            x.put(row[1]);
+            Check.is("steps", x.run(0, 12), 12);
+            for (int i = 0; i < 12; i++) {
+                Check.is(row[0] + " and " + row[1] + ": " + i, x.variable(i), row[i]);
+            }
+        }
     }
 
     /** Promise 16: "stopped by itself (as soon as its last step was done)" */
@@ -450,6 +501,12 @@ public final class LimitTest {
         Check.is("differ begins at 0", x.differ(0, 1, 0, 1), -1);
         Check.is("found early", x.differ(0, 1, 3, 4), 1);
         Check.is("differ of fewer numbers", x.differ(0, 1, 2, 4), -1);
+        Check.compile(x, "in a; in b; b = a < 3; out b;");
+        Check.compile(x, "out 1;");
+        Check.is("found late", x.differ(3, 4, 2, 5), 15);
+        Check.same("share begins at 0", x.share(2, 0, 1, 2), 8.0 / 9.0);
+        Check.is("found late", x.differ(3, 4, 2, 5), 15);
+        Check.is("differ begins at 0", x.differ(3, 4, 1, 2), -1);
         Check.is("ran(0)", x.ran(0), 1);
         Check.is("ran(1)", x.ran(1), 1);
         Check.is("ran(2)", x.ran(2), 3);

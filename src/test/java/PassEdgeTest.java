@@ -34,6 +34,7 @@ public final class PassEdgeTest {
         gotosToWhatStandsBehind();
         labelsWithoutJumps();
         firstInstructionIsDroppedFirst();
+        eightyInstructions();
         Check.end("PassEdgeTest");
     }
 
@@ -387,5 +388,36 @@ public final class PassEdgeTest {
         made(DROP, "a = 5; b = a; goto z; out b; z: out 1;", 5, "out 1;");
         made(DROP, "z: a = b; halt; out a; goto z;", 4, "halt;");
         made(DROP, "k: in a; if a goto m; halt; out a; goto k; m: b = a;", 4, "in a; if a goto m; halt; m:");
+    }
+
+    /** Each pass comes to the 80th instruction, and to whatever stands ahead of it. */
+    private static void eightyInstructions() {
+        String ones = "out 1; ".repeat(77);
+        madeOfMany(FOLD, "a = 5; b = 6; " + ones + "out b;", 1, "a = 5; b = 6; " + ones + "out 6;");
+        madeOfMany(FOLD, "z: a = 0; " + ones + "if a goto z;", 2, "z: a = 0; " + ones.trim());
+        madeOfMany(COPY, "a = b; in c; " + ones + "b = a;", 2, "a = b; in c; " + ones.trim());
+        madeOfMany(VALUE, "a = b + 1; in c; " + ones + "d = b + 1;", 1, "a = b + 1; in c; " + ones + "d = a;");
+        madeOfMany(DROP, "in a; z: " + ones + "if a goto z;", 0, "in a; z: " + ones + "if a goto z;");
+        madeOfMany(DROP, "in a; in b; " + ones + "b = 5;", 1, "in a; in b; " + ones.trim());
+        madeOfMany(DROP, "a = 5; ".repeat(79) + "b = a;", 80, "");
+        madeOfMany(MOVE, "z: in b; " + ones + "goto z;", 0, "z: in b; " + ones + "goto z;");
+        madeOfMany(MOVE, "z: " + ones + "a = 5; goto z;", 1, "a = 5; z: " + ones + "goto z;");
+        madeOfMany(MOVE, "z: " + "a = 5; ".repeat(78) + "goto z;", 0, "z: " + "a = 5; ".repeat(78) + "goto z;");
+        PassForge x = Check.with("z: in b; " + ones + "goto z;");
+        Check.is("80 instructions", x.count(0, 0), 80);
+        Check.is("one loop", x.count(0, 4), 1);
+        Check.is("better changes nothing", x.better(0), 0);
+        Check.is("runs on", x.run(1, 5000), 5000);
+        Check.is("reads again", x.ran(2), 64);
+    }
+
+    private static void madeOfMany(int pass, String text, int changes, String due) {
+        StringBuilder shown = new StringBuilder();
+        for (int from = 0; from < 80; from += 40) {
+            PassForge x = Check.with(text);
+            Check.is("pass " + pass + " of " + text, x.pass(0, pass), changes);
+            shown.append(' ').append(Check.show(x, 1, text, from, from + 40));
+        }
+        Check.same("pass " + pass + " of " + text, shown.toString().trim(), due);
     }
 }
