@@ -16,21 +16,29 @@ public final class DigestTest {
         Check.is("digest of a new object", new PassForge().digest(), due);
     }
 
-    private static void toldByTheOtherCalls() {
+    private static final long[] INPUT = {3, -4, Long.MAX_VALUE};
+
+    private static PassForge worked() {
         PassForge x = Check.with("in a; l: b = a - -7; out b; a = a - 1; if a goto l; goto m; c = 4; m: halt;");
         x.better(0);
         x.pass(0, 3);
-        long[] input = {3, -4, Long.MAX_VALUE};
-        for (long value : input) {
+        for (long value : INPUT) {
             x.put(value);
         }
         Check.feed(x, "x = ");
-        Check.is("digest before a run", x.digest(), told(x, input, 4));
-        x.run(0, 9);
-        Check.is("digest behind a run", x.digest(), told(x, input, 4));
-        Check.compile(x, "n = 66; l: out n; n = n - 1; if n goto l;");
-        x.run(3, 5000);
-        Check.is("sixty numbers are kept", x.digest(), told(x, input, 0));
+        return x;
+    }
+
+    private static void toldByTheOtherCalls() {
+        PassForge x = worked();
+        Check.is("digest before a run", x.digest(), told(x, INPUT, 4));
+        PassForge y = worked();
+        y.run(0, 9);
+        Check.is("digest behind a run", y.digest(), told(y, INPUT, 4));
+        PassForge z = worked();
+        Check.compile(z, "n = 66; l: out n; n = n - 1; if n goto l;");
+        z.run(3, 5000);
+        Check.is("sixty numbers are kept", z.digest(), told(z, INPUT, 0));
     }
 
     private static long told(PassForge x, long[] input, int bytes) {

@@ -114,6 +114,7 @@ public final class PassEdgeTest {
         made(FOLD, "a = 5; a = 6; out a;", 1, "a = 5; a = 6; out 6;");
         made(FOLD, "a = 5; in a; a = 6; out a;", 1, "a = 5; in a; a = 6; out 6;");
         made(FOLD, "a = 0; out a;", 1, "a = 0; out 0;");
+        made(FOLD, "in a; b = a; out b;", 0, "in a; b = a; out b;");
         made(FOLD, "a = b; out a; out b;", 0, "a = b; out a; out b;");
         made(FOLD, "a = 5; in b; out a; out b;", 1, "a = 5; in b; out 5; out b;");
     }
