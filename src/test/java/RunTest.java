@@ -160,9 +160,9 @@ public final class RunTest {
         Check.is("a", x.variable(0), 7);
         Check.is("b", x.variable(1), 0);
         Check.is("one that the program has not", x.variable(11), 0);
-        Check.compile(x, "b = a; a = 3;");
+        Check.compile(x, "out a; a = 3;");
         x.run(1, 1);
-        Check.is("0 at first", x.variable(1), 0);
+        Check.is("0 at first", x.output(0), 0);
         Check.is("not of an older run", x.variable(0), 0);
         for (int wrong : new int[] {-1, 12, Integer.MIN_VALUE, Integer.MAX_VALUE}) {
             Check.fails("variable " + wrong, INDEX, () -> x.variable(wrong));
