@@ -37,13 +37,13 @@ final class Check {
         same(what, answer(call), due.getName());
     }
 
-    /** Feeds a text, each of its signs being a byte, and trims what stands behind it. */
+    /** Makes the tape a text, each of its signs being a byte. */
     static void feed(PassForge x, String text) {
-        int had = x.trim(0);
+        x.trim(0);
         for (int at = 0; at < text.length(); at += 20) {
             x.feed(four(text, at), four(text, at + 4), four(text, at + 8), four(text, at + 12), four(text, at + 16));
         }
-        x.trim(had + text.length());
+        x.trim(text.length());
     }
 
     static int four(String text, int at) {

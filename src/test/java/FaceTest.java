@@ -1,7 +1,13 @@
 import java.lang.reflect.Method;
 import java.lang.reflect.Modifier;
+import java.nio.file.Files;
+import java.nio.file.Path;
 import java.util.Arrays;
+import java.util.List;
 import java.util.TreeSet;
+import java.util.regex.Matcher;
+import java.util.regex.Pattern;
+import java.util.stream.Collectors;
 
 /** The public face is the document's, to the letter; nothing else can be seen from outside. */
 public final class FaceTest {
@@ -28,7 +34,7 @@ public final class FaceTest {
         "long digest()",
     };
 
-    public static void main(String[] args) {
+    public static void main(String[] args) throws Exception {
         Class<?> face = PassForge.class;
         TreeSet<String> seen = new TreeSet<>();
         TreeSet<String> hidden = new TreeSet<>();
@@ -51,7 +57,34 @@ public final class FaceTest {
         Check.is("fields that are not private", Arrays.stream(face.getDeclaredFields())
                 .filter(x -> !Modifier.isPrivate(x.getModifiers())).count(), 0);
         Check.is("classes inside that are public", face.getClasses().length, 0);
+        declarations();
         Check.end("FaceTest");
+    }
+
+    /** The class declares what the document's code block does, letter by letter and in its order, under its headings. */
+    private static void declarations() throws Exception {
+        List<String> document = Files.readAllLines(Path.of("../shared/DOC.md"));
+        List<String> block = document.subList(document.indexOf("```java") + 1, document.lastIndexOf("```"));
+        List<String> due = block.subList(0, block.indexOf("}")).stream().map(String::strip)
+                .map(x -> x.replaceAll(" *[{;]$", "")).collect(Collectors.toList());
+        for (String line : document) {
+            Matcher heading = Pattern.compile("Ahead of the calls `(\\w+)`.* says: (---- \\w+)\\.").matcher(line);
+            if (heading.matches()) {
+                due.add(placeOf(heading.group(1), due), "// " + heading.group(2));
+            }
+        }
+        List<String> got = Files.readAllLines(Path.of("src/main/java/PassForge.java")).stream().map(String::strip)
+                .filter(x -> x.startsWith("public ") || x.startsWith("// ----"))
+                .map(x -> x.replaceAll(" *[{;]$", "")).collect(Collectors.toList());
+        Check.same("declarations and headings", got, due);
+    }
+
+    private static int placeOf(String call, List<String> lines) {
+        int at = 0;
+        while (!lines.get(at).contains(" " + call + "(")) {
+            at++;
+        }
+        return at;
     }
 
     private static String told(Method method) {
